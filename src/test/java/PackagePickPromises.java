@@ -22,6 +22,8 @@ public final class PackagePickPromises {
         take();
         solveEdges();
         solveAims();
+        solveFirstPackageFirst();
+        solveChangesByPackage();
         solveWithoutChoice();
         keep();
         chosen();
@@ -155,6 +157,11 @@ public final class PackagePickPromises {
         due("its ban stands", solve(x, 0), ILLEGAL_STATE);
         due("of what is told", x.drop(1, 2), true);
         due("what is told stays", x.chosen(1), 2);
+        x.take(1);
+        x.version(1, 2);
+        x.version(3, 1);
+        due("a new need", x.need(1, 2, 3, 1, 1), true);
+        due("the new need alone", solve(x, 0), 2);
     }
 
     private static void ban() {
@@ -246,6 +253,15 @@ public final class PackagePickPromises {
         due("a new one", x.ask(6, 0, 0), true);
         due("it is the last", solve(x, 0), ILLEGAL_STATE);
         due("its number", core(x, 0), 3);
+        PackagePick y = new PackagePick();
+        y.version(1, 0);
+        y.version(1, 1);
+        y.ask(0, 0, 0);
+        y.ask(1, 1, 1);
+        due("the first of two", y.take(0), true);
+        due("the other moves up with its range", y.can(1), 2);
+        due("the only one", y.take(0), true);
+        due("none is left", y.can(1), 16);
     }
 
     private static void solveEdges() {
@@ -328,6 +344,47 @@ public final class PackagePickPromises {
         due("aim 2 among equals", solve(x, 2), 2);
         choice(x, 2, -1, 2, -1, -1, -1, -1);
         due("a package left out is a change", x.count(6), 2);
+    }
+
+    private static void solveFirstPackageFirst() {
+        promise = "8 solve, the first package first";
+        PackagePick x = new PackagePick();
+        for (int p = 0; p < 2; p++) {
+            x.version(p, 0);
+            x.version(p, 1);
+            x.ask(p, 0, 3);
+        }
+        x.ban(0, 1, 1, 1);
+        for (int aim = 0; aim < 2; aim++) {
+            solve(x, aim);
+            choice(x, 1, 0, -1, -1, -1, -1, -1);
+        }
+        PackagePick y = new PackagePick();
+        y.version(0, 0);
+        y.version(6, 0);
+        y.version(6, 3);
+        y.need(6, 0, 0, 0, 0);
+        y.ask(6, 0, 3);
+        due("no version is less than version 0", solve(y, 0), 2);
+        choice(y, 0, -1, -1, -1, -1, -1, 0);
+        due("fewest", solve(y, 1), 1);
+        choice(y, -1, -1, -1, -1, -1, -1, 3);
+    }
+
+    private static void solveChangesByPackage() {
+        promise = "8 solve, another version is one change";
+        PackagePick x = new PackagePick();
+        x.version(0, 3);
+        x.version(1, 0);
+        x.version(2, 0);
+        x.ask(0, 0, 3);
+        solve(x, 0);
+        x.keep();
+        x.version(0, 1);
+        x.need(0, 3, 1, 0, 0);
+        x.need(0, 3, 2, 0, 0);
+        due("one other version before two more packages", solve(x, 2), 1);
+        choice(x, 1, -1, -1, -1, -1, -1, -1);
     }
 
     private static void solveWithoutChoice() {
