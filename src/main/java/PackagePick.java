@@ -66,8 +66,7 @@ public final class PackagePick {
         if (aim < 0 || aim >= AIMS) {
             throw new IllegalArgumentException("there is no such aim");
         }
-        tallyChoices(wishes.all(), aim, NO_LIMIT);
-        if (tally.found == 0) {
+        if (tallyChoices(wishes.all(), aim, NO_LIMIT) == 0) {
             hindering = fewestHindering();
             throw new IllegalStateException("there is no choice");
         }
@@ -94,8 +93,7 @@ public final class PackagePick {
     }
 
     public int many() {
-        tallyChoices(wishes.all(), 0, NO_LIMIT);
-        return tally.found;
+        return tallyChoices(wishes.all(), 0, NO_LIMIT);
     }
 
     public int can(int p) {
@@ -141,11 +139,13 @@ public final class PackagePick {
         }
     }
 
-    private void tallyChoices(int subset, int aim, int limit) {
-        tally.begin(aim, kept, limit);
+    /** Tallies the choices there are if only this subset is asked, up to a limit: how many. */
+    private int tallyChoices(int subset, int aim, int limit) {
+        tally.begin(aim, limit);
         int required = wishes.union(wishes.wanted, subset);
         int refused = wishes.union(wishes.unmet, subset);
         explore(required, 0, catalog.there & ~refused, 0);
+        return tally.found;
     }
 
     // Only packages that something asks for or needs are ever settled, so none is chosen for nothing;
@@ -156,7 +156,8 @@ public final class PackagePick {
         }
         int open = required & ~settled;
         if (open == 0) {
-            tally.enter(allowed & (required * ALL_OF_ONE));
+            int choice = allowed & (required * ALL_OF_ONE);
+            tally.enter(choice, costOf(choice));
             return;
         }
         int place = lowestPlace(open);
@@ -170,23 +171,31 @@ public final class PackagePick {
         }
     }
 
+    /** Of two choices the one that costs less is better; of equals, the greater number. */
+    private int costOf(int choice) {
+        switch (tally.aim) {
+            case FEWEST_PACKAGES:
+                return Integer.bitCount(choice);
+            case FEWEST_CHANGES:
+                return differing(choice, kept);
+            default:
+                return 0;
+        }
+    }
+
     // Of sets of one size the one that is less where they first differ is the greater number, as
     // wish 0 has the highest bit: so the first that is found on the way down is the one that is due.
     private int fewestHindering() {
         int all = wishes.all();
         for (int size = 1; size <= MOST_ASKED; size++) {
             for (int subset = all; subset > 0; subset--) {
-                if ((subset & ~all) == 0 && Integer.bitCount(subset) == size && !hasChoice(subset)) {
+                if ((subset & ~all) == 0 && Integer.bitCount(subset) == size
+                    && tallyChoices(subset, 0, 1) == 0) {
                     return subset;
                 }
             }
         }
         return 0;
-    }
-
-    private boolean hasChoice(int subset) {
-        tallyChoices(subset, 0, 1);
-        return tally.found > 0;
     }
 
     private static boolean isPackage(int p) {
@@ -356,7 +365,6 @@ public final class PackagePick {
     /** What is known of the choices that one search has come upon. */
     private static final class Tally {
         int aim = 0;
-        int kept = 0;
         int limit = 0;
         int found = 0;
         int seen = 0;
@@ -364,9 +372,8 @@ public final class PackagePick {
         int best = 0;
         int bestCost = 0;
 
-        void begin(int newAim, int newKept, int newLimit) {
+        void begin(int newAim, int newLimit) {
             aim = newAim;
-            kept = newKept;
             limit = newLimit;
             found = 0;
             seen = 0;
@@ -379,8 +386,7 @@ public final class PackagePick {
             return found >= limit;
         }
 
-        void enter(int choice) {
-            int cost = costOf(choice);
+        void enter(int choice, int cost) {
             if (found == 0 || cost < bestCost || (cost == bestCost && choice > best)) {
                 best = choice;
                 bestCost = cost;
@@ -388,17 +394,6 @@ public final class PackagePick {
             found++;
             seen |= choice;
             absent |= ALL_MARKS & ~marksOf(choice);
-        }
-
-        int costOf(int choice) {
-            switch (aim) {
-                case FEWEST_PACKAGES:
-                    return Integer.bitCount(choice);
-                case FEWEST_CHANGES:
-                    return differing(choice, kept);
-                default:
-                    return 0;
-            }
         }
     }
 }
