@@ -56,9 +56,11 @@ public final class PackagePickBounds {
         aimZeroNoVersionIsLeast();
         aimZeroLastPackageDecides();
         aimOneFewestThenAsAimZero();
+        aimOneAmongEqualsNotByKept();
         aimTwoWithNothingKept();
         aimTwoCountsEachPackageOnce();
         aimTwoThenAsAimZero();
+        aimTwoAmongEqualsNotByTheirSize();
         aimTwoByWhatIsKeptNotTold();
         aimTwoKeepsWhatIsNotThereAnyMore();
     }
@@ -507,6 +509,23 @@ public final class PackagePickBounds {
         choice(x, -1, -1, 3, -1, -1, -1, 2);
     }
 
+    private static void aimOneAmongEqualsNotByKept() {
+        sentence = "AIM 1: of these as by AIM 0, whatever is KEPT";
+        PackagePick x = new PackagePick();
+        x.version(3, 1);
+        x.ask(3, 0, 3);
+        solve(x, 0);
+        x.keep();
+        x.version(3, 0);
+        x.version(3, 2);
+        due("aim 2", solve(x, 2), 1);
+        due("as it is kept", x.chosen(3), 1);
+        for (int aim = 0; aim < 2; aim++) {
+            due("aims 0 and 1", solve(x, aim), 1);
+            due("the greatest version", x.chosen(3), 2);
+        }
+    }
+
     private static void aimTwoWithNothingKept() {
         sentence = "AIM 2: what is KEPT (no package is chosen in it)";
         PackagePick x = new PackagePick();
@@ -558,6 +577,39 @@ public final class PackagePickBounds {
         due("one of the two is otherwise", solve(x, 2), 2);
         choice(x, 2, 0, -1, -1, -1, -1, -1);
         due("count", x.count(6), 1);
+    }
+
+    private static void aimTwoAmongEqualsNotByTheirSize() {
+        sentence = "AIM 2: of these as by AIM 0, however many packages they have";
+        PackagePick x = oneMoreOrOneLess(4, 5, 6);
+        due("two choices", x.many(), 2);
+        due("package 4 is chosen rather than not", solve(x, 2), 3);
+        choice(x, -1, -1, -1, -1, 0, 0, 1);
+        due("two are otherwise", x.count(6), 2);
+        due("the fewest", solve(x, 1), 1);
+        choice(x, -1, -1, -1, -1, -1, -1, 2);
+        due("two are otherwise, too", x.count(6), 2);
+        PackagePick y = oneMoreOrOneLess(4, 3, 1);
+        due("package 1 has the greater version", solve(y, 2), 1);
+        choice(y, -1, 2, -1, -1, -1, -1, -1);
+    }
+
+    /** Kept are packages stays and asked; now asked takes one more in version 1, or none in 2. */
+    private static PackagePick oneMoreOrOneLess(int more, int stays, int asked) {
+        PackagePick x = new PackagePick();
+        x.version(more, 0);
+        x.version(stays, 0);
+        x.version(asked, 0);
+        x.need(asked, 0, stays, 0, 0);
+        x.ask(asked, 0, 3);
+        solve(x, 0);
+        x.keep();
+        x.drop(asked, 0);
+        x.version(asked, 1);
+        x.need(asked, 1, stays, 0, 0);
+        x.need(asked, 1, more, 0, 0);
+        x.version(asked, 2);
+        return x;
     }
 
     private static void aimTwoByWhatIsKeptNotTold() {

@@ -47,6 +47,12 @@ public final class PackagePickFace {
                 seen.add("a private method with a public one's name: " + m);
             }
         }
+        for (Class<?> inside : PackagePick.class.getDeclaredClasses()) {
+            int modifiers = inside.getModifiers();
+            if (!Modifier.isStatic(modifiers) || Modifier.isPublic(modifiers) || Modifier.isProtected(modifiers)) {
+                seen.add("a class inside that is not static or can be seen: " + inside);
+            }
+        }
         if (!Modifier.isFinal(PackagePick.class.getModifiers()) || !Modifier.isPublic(PackagePick.class.getModifiers())) {
             seen.add("a class that is not public and final");
         }
